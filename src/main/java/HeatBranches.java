@@ -541,7 +541,6 @@ public final class HeatBranches {
             looseness[added] = pipeLooseness;
             draw[added] = flowDrawn;
             setting[added] = returnSetting;
-            // an undo or a parse may have left something here of an earlier node
             leak[added] = 0;
             meter[added] = 0;
             account[added] = 0;
@@ -768,10 +767,11 @@ public final class HeatBranches {
                     continue;
                 }
                 load[b] = Math.min(boilers.capacity[b], left);
-                left -= load[b];
                 if (load[b] > 0 && load[b] < boilers.least[b]) {
                     load[b] = boilers.least[b];
                     left = 0;
+                } else {
+                    left -= load[b];
                 }
                 costs += load[b] * boilers.cost[b] / 1000;
             }

@@ -102,6 +102,18 @@ public final class BoilerTest {
         x.setDraw(1, 0, 0);
         Checks.due("no need", x.value(7), 0);
         Checks.due("no load", x.boiler(2, 3), 0);
+        oneIsLeft();
+    }
+
+    private static void oneIsLeft() {
+        HeatBranches x = new HeatBranches();
+        x.addNode(0, 1, 0, 1, 0);
+        x.addBoiler(799, 799, 0);
+        x.addBoiler(9, 2, 0);
+        Checks.due("its least load is its capacity", x.boiler(0, 3), 799);
+        Checks.due("one is left", x.boiler(1, 3), 2);
+        x.setTemperatures(799, 80);
+        Checks.due("none is left", x.boiler(1, 3), 0);
     }
 
     private static void divisions() {

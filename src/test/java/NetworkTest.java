@@ -15,6 +15,8 @@ public final class NetworkTest {
         bills();
         values();
         sums();
+        twoStreets();
+        fullNetwork();
         Checks.finish("NetworkTest");
     }
 
@@ -246,5 +248,37 @@ public final class NetworkTest {
         for (int edge : EDGES) {
             Checks.refused(x, Checks.ARGUMENT, "sum(" + edge + ")", () -> x.sum(edge));
         }
+    }
+
+    /** Two pipes leave the boiler house: all that is told of node 0 is told of both. */
+    private static void twoStreets() {
+        HeatBranches x = Samples.street();
+        x.addNode(0, 1, 0, 5, 100);
+        nodeIs("two streets", x, 0, -1, 0, 0, 0, 0, 0, 40, 800, -1, 2, 5, 0);
+        heatIs("two streets", x, 4, 3500, 0, 0, 500, 4000, 175 - 15);
+        Checks.due("return at node 0", x.value(13), 11500);
+        Checks.due("need", x.value(7), 40 * 800 - 11500);
+        Checks.due("delivered", x.sum(0), 10540 + 3500);
+        Checks.dueDouble("efficiency", x.efficiency(), 14040.0 / 32000.0);
+    }
+
+    private static void fullNetwork() {
+        HeatBranches x = new HeatBranches();
+        for (int n = 1; n < 16; n++) {
+            x.addNode(n / 2, 1, 0, 1, 300);
+        }
+        x.addBoiler(9999999, 0, 0);
+        Checks.due("flow", x.node(0, 6), 15);
+        Checks.due("delivered", x.sum(0), 15 * 500);
+        Checks.due("return", x.value(13), 15 * 300);
+        Checks.due("branch of the boiler house", x.node(0, 10), 16);
+        Checks.due("supplyFor(15, 555)", x.supplyFor(15, 555), 555);
+        Checks.due("cheapestSupply", x.cheapestSupply(), 400);
+        Checks.due("saves(15)", x.saves(15), 0);
+        Checks.due("pass", x.pass(2), 2);
+        Checks.due("sum of all accounts", x.value(12), 15 * 2 * (500 * 50 / 1000 - 100 * 10 / 1000));
+        Checks.due("nothing to find", x.metersToFind(), 0);
+        x.setLeak(15, 1);
+        Checks.due("a leak at the end", x.nextMeter(0), 2);
     }
 }

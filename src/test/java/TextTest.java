@@ -11,6 +11,7 @@ public final class TextTest {
         faults();
         ranges();
         sixteenthNode();
+        fullText();
         Checks.finish("TextTest");
     }
 
@@ -56,6 +57,9 @@ public final class TextTest {
         HeatBranches x = new HeatBranches();
         Samples.write(x, "0,100,10,20,400;01,200,20,010,0300;1,50,5,0,500;");
         Checks.due("parse", x.parse(), 4);
+        Checks.due("flow of the text", x.node(0, 6), 30);
+        Checks.due("temperature of the text", x.node(1, 7), 800 - 720 * 1000 / 30000);
+        Checks.due("region of the text", x.region(0), 3);
         x.setLeak(2, 5);
         int[] same = {0, 1, 2, 3, 4, 5, 6, 7, 8, 9, 10, 11};
         HeatBranches street = Samples.street();
@@ -156,5 +160,21 @@ public final class TextTest {
         Samples.write(x, "10,1,0,0,0;11,1,0,0,0;12,1,0,0,0;13,1,0,0,0;14,1,0,0,0;");
         Checks.due("parents of two digits", x.parse(), 16);
         Checks.due("parent of the last node", x.node(15, 0), 14);
+    }
+
+    /** Texts of 180 bytes: the end of the text is the end of the room, too. */
+    private static void fullText() {
+        String fourteen = "0,10,1,1,10;".repeat(14);
+        Checks.due("15 nodes of 12 bytes", parsed(fourteen + "0,10,1,1,10;"), 16);
+        faultAt(fourteen + "0,10,1,1,100", 180);
+        faultAt(fourteen + "0,100,10,10,", 180);
+        faultAt(fourteen + "0,1,1,1,1201", 176);
+        faultAt(fourteen + "0,10,10,1111", 179);
+        HeatBranches x = new HeatBranches();
+        Samples.write(x, "0,,");
+        Checks.due("a fault", x.parse(), -12);
+        x.clearText();
+        Samples.write(x, NODE);
+        Checks.due("no fault after a fault", x.parse(), 2);
     }
 }

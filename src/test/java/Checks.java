@@ -18,6 +18,10 @@ final class Checks {
         tell(got == want, what + " answered " + got + ", due is " + want);
     }
 
+    static void due(String what, String got, String want) {
+        tell(got.equals(want), what + " answered '" + got + "', due is '" + want + "'");
+    }
+
     static void dueDouble(String what, double got, double want) {
         tell(got == want, what + " answered " + got + ", due is " + want);
     }

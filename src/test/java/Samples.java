@@ -39,6 +39,38 @@ final class Samples {
         return x;
     }
 
+    /** The heated street with a meter, hours, a text of one node and 2 saved states, so that there is room for 2. */
+    static HeatBranches busy() {
+        HeatBranches x = heatedStreet();
+        x.setMeter(2, true);
+        x.pass(3);
+        x.setTariff(60, 390, 9);
+        x.pass(1);
+        x.pass(1);
+        x.undo();
+        x.undo();
+        write(x, "0,7,6,5,4;");
+        return x;
+    }
+
+    /** All is full: 16 nodes in a chain, 4 boilers, 200 hours, 15 meters, 180 bytes of a text without an error. */
+    static HeatBranches full() {
+        HeatBranches x = new HeatBranches();
+        for (int n = 1; n < 16; n++) {
+            x.addNode(n - 1, 1, 0, 1, 0);
+        }
+        for (int n = 1; n < 16; n++) {
+            x.setMeter(n, true);
+        }
+        for (int b = 0; b < 4; b++) {
+            x.addBoiler(5000, b, b);
+        }
+        x.pass(100);
+        x.pass(100);
+        write(x, "0,10,1,1,10;".repeat(15));
+        return x;
+    }
+
     static void write(HeatBranches x, String text) {
         for (int i = 0; i < text.length(); i++) {
             x.append(text.charAt(i));

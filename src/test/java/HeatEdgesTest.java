@@ -13,6 +13,7 @@ public final class HeatEdgesTest {
         belowZero();
         heatOfNothing();
         needOfAtLeastZero();
+        returnOfNodeZero();
         billDivisions();
         billAtTheMark();
         largestHeats();
@@ -163,6 +164,19 @@ public final class HeatEdgesTest {
         x.setDraw(1, 5, 1200);
         x.setLeak(1, 1);
         Checks.due("what leaks does not come back", x.value(7), 800);
+    }
+
+    /** The return at node 0 is that of its children alone, and nothing is lost on the way back. */
+    private static void returnOfNodeZero() {
+        HeatBranches x = pipe(500, 1);
+        x.addNode(1, 500, 1, 1, 100);
+        x.addNode(0, 500, 50, 1, 1200);
+        Checks.due("return of the lower node", x.heat(2, 3), 100);
+        Checks.due("return of the upper node", x.heat(1, 3), 100);
+        Checks.due("return of the other pipe", x.heat(3, 3), 80);
+        Checks.due("return at node 0", x.value(13), 180);
+        x.setDraw(1, 1, 200);
+        Checks.due("return with a second draw", x.value(13), 380);
     }
 
     /** Delivered heats of 1, 2, 999 and 1000; and halves that are divided for themselves. */

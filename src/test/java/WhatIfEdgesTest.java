@@ -215,6 +215,8 @@ public final class WhatIfEdgesTest {
         leak.setLeak(1, 0);
         leak.setDraw(1, 1, 399);
         Checks.dueDouble("1 of 400", leak.efficiency(), 1.0 / 400.0);
+        leak.addNode(0, 1, 0, 1, 397);
+        Checks.dueDouble("4 of two pipes with 400", leak.efficiency(), 4.0 / 800.0);
     }
 
     private static void nothingChanges() {

@@ -39,12 +39,10 @@ public final class WhatIfTest {
     private static void cheapestSupply() {
         HeatBranches x = Samples.heatedStreet();
         Checks.due("as warm as node 2 needs it", x.cheapestSupply(), 528);
-        x.setLeak(2, 0);
-        Checks.due("another flow", x.cheapestSupply(), cheapestByTrying(x));
         x.setDraw(1, 20, 1101);
         Checks.due("a setting out of reach", x.cheapestSupply(), -1);
-        x.setDraw(1, 0, 1200);
-        Checks.due("no draw, no wish", x.cheapestSupply(), cheapestByTrying(x));
+        cheapestByTrying("another flow", () -> without(2));
+        cheapestByTrying("no draw, no wish", () -> without(1));
         HeatBranches cold = Samples.street();
         Checks.due("unmet without boilers", cold.cheapestSupply(), -1);
         cold.addBoiler(7479, 0, 0);
@@ -62,24 +60,35 @@ public final class WhatIfTest {
         Checks.due("the highest one", empty.cheapestSupply(), 1200);
     }
 
-    /** Tries each supply for itself, as the document tells it. */
-    private static int cheapestByTrying(HeatBranches x) {
-        int supply = x.value(0);
+    private static HeatBranches without(int node) {
+        HeatBranches x = Samples.heatedStreet();
+        x.setLeak(2, 0);
+        x.setDraw(node, 0, 1200);
+        return x;
+    }
+
+    /** Tries each supply, as the document tells it, with an object of its own. */
+    private static void cheapestByTrying(String what, Edges.Maker maker) {
         int best = -1;
         int bestCosts = 0;
         for (int s = 400; s <= 1200; s++) {
+            HeatBranches x = maker.made();
             x.setTemperatures(s, x.value(1));
-            boolean good = x.value(8) == 0;
-            for (int n = 1; n < x.value(5); n++) {
-                good &= x.node(n, 3) == 0 || x.node(n, 7) >= x.node(n, 8) + 100;
-            }
-            if (good && (best < 0 || x.value(9) < bestCosts)) {
+            if (isGood(x) && (best < 0 || x.value(9) < bestCosts)) {
                 best = s;
                 bestCosts = x.value(9);
             }
         }
-        x.setTemperatures(supply, x.value(1));
-        return best;
+        Checks.holds("a supply is good", best > 400);
+        Checks.due(what, maker.made().cheapestSupply(), best);
+    }
+
+    private static boolean isGood(HeatBranches x) {
+        boolean good = x.value(8) == 0;
+        for (int n = 1; n < x.value(5); n++) {
+            good &= x.node(n, 3) == 0 || x.node(n, 7) >= x.node(n, 8) + 100;
+        }
+        return good;
     }
 
     private static void saves() {
@@ -92,22 +101,6 @@ public final class WhatIfTest {
         for (int edge : EDGES) {
             Checks.refused(x, Checks.INDEX, "saves(" + edge + ")", () -> x.saves(edge));
         }
-        savesBelowZero();
-    }
-
-    /** The leak keeps the return warm: without it the customer's return is colder. */
-    private static void savesBelowZero() {
-        HeatBranches x = new HeatBranches();
-        x.setTemperatures(400, -200);
-        x.addNode(0, 50, 1, 1, 1200);
-        x.addNode(1, 500, 50, 25, 1200);
-        x.setLeak(2, 1);
-        x.addBoiler(9999999, 0, 99);
-        int with = x.value(9);
-        int told = x.saves(2);
-        x.setLeak(2, 0);
-        Checks.due("saves below 0", told, with - x.value(9));
-        Checks.holds("it is below 0", told < 0);
     }
 
     private static void efficiency() {

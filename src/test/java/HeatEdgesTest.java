@@ -14,6 +14,7 @@ public final class HeatEdgesTest {
         heatOfNothing();
         needOfAtLeastZero();
         returnOfNodeZero();
+        sumsWithoutNodeZero();
         billDivisions();
         billAtTheMark();
         largestHeats();
@@ -177,6 +178,22 @@ public final class HeatEdgesTest {
         Checks.due("return at node 0", x.value(13), 180);
         x.setDraw(1, 1, 200);
         Checks.due("return with a second draw", x.value(13), 380);
+    }
+
+    /** Node 0 has no pipe that loses, whatever flows out of it. */
+    private static void sumsWithoutNodeZero() {
+        HeatBranches x = pipe(1, 0);
+        x.setDraw(1, 5, 0);
+        x.setLeak(1, 5);
+        Checks.due("a tight pipe loses nothing", x.sum(1), 0);
+        Checks.due("all is delivered", x.sum(0), 4000);
+        Checks.due("or leaks", x.sum(2), 4000);
+        x.addNode(0, 500, 50, 1, 0);
+        Checks.due("the loose pipe alone", x.sum(1), 720);
+        x.setDraw(1, 0, 0);
+        x.setLeak(1, 0);
+        Checks.due("the first node has no flow", x.sum(1), 720);
+        Checks.due("delivered at the ground", x.sum(0), 80);
     }
 
     /** Delivered heats of 1, 2, 999 and 1000; and halves that are divided for themselves. */

@@ -161,6 +161,7 @@ public final class NetworkEdgesTest {
         Checks.due("all are in the branch", star.node(0, 10), 16);
         Checks.due("a leaf has no children", star.node(15, 9), 0);
         Checks.due("a leaf is in its branch", star.node(15, 10), 1);
+        Checks.due("those beside it are not", star.node(1, 10), 1);
         HeatBranches chain = Samples.full();
         for (int n = 0; n < 16; n++) {
             Checks.due("children in a chain", chain.node(n, 9), n < 15 ? 1 : 0);

@@ -6,6 +6,7 @@ public final class WhatIfEdgesTest {
     public static void main(String[] args) {
         supplyForArguments();
         supplyOnTheScale();
+        eachSupplyCanBeTheAnswer();
         supplyOfSeveral();
         supplyWithoutFlow();
         supplyAboveTheGround();
@@ -19,6 +20,7 @@ public final class WhatIfEdgesTest {
         savesSomething();
         savesBelowZero();
         efficiency();
+        questionsToAFullNetwork();
         nothingChanges();
         Checks.finish("WhatIfEdgesTest");
     }
@@ -48,6 +50,17 @@ public final class WhatIfEdgesTest {
         HeatBranches losing = pipe(1, 1, 1, 0);
         Checks.due("1 of 1120 is lost", losing.supplyFor(1, 1199), 1200);
         Checks.due("more than the warmest", losing.supplyFor(1, 1200), -1);
+    }
+
+    private static void eachSupplyCanBeTheAnswer() {
+        HeatBranches low = pipe(1, 0, 1, 0);
+        for (int wanted = 400; wanted <= 800; wanted++) {
+            Checks.due("supply for " + wanted, low.supplyFor(1, wanted), wanted);
+        }
+        HeatBranches high = pipe(1, 0, 1, 0);
+        for (int wanted = 800; wanted <= 1200; wanted++) {
+            Checks.due("supply for " + wanted, high.supplyFor(1, wanted), wanted);
+        }
     }
 
     /** T is s - (s - 80) / 2: 240 at 400, 241 at 401 and 402, 640 at 1199 and 1200. */
@@ -217,6 +230,25 @@ public final class WhatIfEdgesTest {
         Checks.dueDouble("1 of 400", leak.efficiency(), 1.0 / 400.0);
         leak.addNode(0, 1, 0, 1, 397);
         Checks.dueDouble("4 of two pipes with 400", leak.efficiency(), 4.0 / 800.0);
+    }
+
+    /** A draw of 1 and a setting of 0 at each of 15 tight pipes: the need is 15 times the supply. */
+    private static void questionsToAFullNetwork() {
+        HeatBranches x = Samples.full();
+        Checks.due("need", x.value(7), 12000);
+        Checks.due("cheapest supply", x.cheapestSupply(), 400);
+        Checks.due("supply for the last node", x.supplyFor(15, 900), 900);
+        Checks.dueDouble("all is delivered", x.efficiency(), 1.0);
+        x.setDraw(15, 1, 777);
+        Checks.due("the last node decides", x.cheapestSupply(), 877);
+        x.setLeak(15, 1);
+        Checks.due("need", x.value(7), 16 * 800 - 777);
+        Checks.due("costs of 5000, 5000 and 2023", x.value(9), 5000 * 1 / 1000 + 2023 * 2 / 1000);
+        x.setCost(2, 99);
+        Checks.due("boiler 3 comes ahead of boiler 2", x.boiler(3, 3), 2023);
+        Checks.due("a load of 2023 or 1223", x.saves(15), 2023 * 3 / 1000 - 1223 * 3 / 1000);
+        x.setMeter(15, false);
+        Checks.due("its meter is to be found", x.metersToFind(), 1);
     }
 
     private static void nothingChanges() {

@@ -395,7 +395,7 @@ public final class HeatBranches {
     private int heatOf(int node, int what) {
         Network network = now.network;
         switch (what) {
-            case 0: return network.draw[node] * (actual.warmth[node] - actual.returnOf(network, node));
+            case 0: return deliveredBy(node);
             case 1: return actual.flow[node] * (actual.warmthAbove(network, node) - actual.warmth[node]);
             case 2: return network.leak[node] * actual.warmth[node];
             case 3: return actual.back[node];
@@ -404,9 +404,13 @@ public final class HeatBranches {
         }
     }
 
+    private int deliveredBy(int node) {
+        return now.network.draw[node] * (actual.warmth[node] - actual.returnOf(now.network, node));
+    }
+
     private int billOf(int node) {
         int overMark = actual.returnOf(now.network, node) - now.mark;
-        return heatOf(node, 0) * now.price / 1000 + now.network.draw[node] * overMark * now.bonus / 1000;
+        return deliveredBy(node) * now.price / 1000 + now.network.draw[node] * overMark * now.bonus / 1000;
     }
 
     private int number(int what) {

@@ -54,6 +54,7 @@ public final class FaceTest {
 
     public static void main(String[] args) throws IOException {
         face();
+        document(Files.readString(Path.of(args[0])));
         members();
         text(Files.readAllLines(Path.of(args[0])));
         Checks.finish("FaceTest");
@@ -73,6 +74,16 @@ public final class FaceTest {
         Checks.due("public methods", publicOnes.size(), FACE.size());
         Checks.due("NONE", HeatBranches.NONE, -1);
         Checks.due("modifiers of the class", HeatBranches.class.getModifiers(), Modifier.PUBLIC | Modifier.FINAL);
+    }
+
+    /** Names and order of arguments and exceptions, too, are those of the document's face. */
+    private static void document(String program) throws IOException {
+        String line = program.replaceAll("\\s+", " ");
+        for (String due : FaceText.lines()) {
+            String start = due.endsWith(";") && due.contains("(") ? due.substring(0, due.length() - 1) + " {" : due;
+            Checks.holds("'" + due + "' is there", line.contains(start));
+        }
+        Checks.due("methods of the document", FaceText.methods().size(), FACE.size());
     }
 
     private static String written(Method m) {
@@ -121,7 +132,8 @@ public final class FaceTest {
                 Checks.holds("'" + line + "' without " + out, !Pattern.compile(out).matcher(code).find());
             }
             boolean makes = code.contains("new ");
-            boolean mayMake = code.contains("throw new ") || code.contains(" final ") || code.contains("saved[i] = new");
+            boolean mayMake = code.contains("throw new ") || code.contains(" final ")
+                || code.contains("saved[i] = new");
             Checks.holds("'" + line + "' makes nothing in a call", !makes || mayMake);
         }
     }
